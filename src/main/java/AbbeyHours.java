@@ -11,6 +11,12 @@ public final class AbbeyHours {
     private static final int DUTIES = 4;
     private static final int MOST_STOCK = 1_000_000;
     private static final int MOST_GUESTS = 200;
+    private static final int FOOD_USED = 0;
+    private static final int FOOD_LACKING = 1;
+    private static final int CANDLES = 2;
+    private static final int MASSES_SAID = 3;
+    private static final int MASSES_OWED = 4;
+    private static final int FIGURES = 5;
 
     private final Bells bells;
     private final Feasts feasts;
@@ -20,12 +26,13 @@ public final class AbbeyHours {
     private final Monks monks;
     private final Duties duties;
     private final Gifts gifts;
-    private final DayBook book;
+    private final DayTable figures;
     private int today;
     private int stock;
     private int guestHeads;
     private int guestRanks;
     private int faultPlace;
+    private int candlesInAll;
 
     public AbbeyHours() {
         bells = new Bells();
@@ -36,7 +43,7 @@ public final class AbbeyHours {
         monks = new Monks();
         duties = new Duties();
         gifts = new Gifts();
-        book = new DayBook();
+        figures = new DayTable(FIGURES);
         faultPlace = NONE;
     }
 
@@ -174,7 +181,13 @@ public final class AbbeyHours {
         int needed = foodNeeded();
         int used = Math.min(needed, stock);
         stock -= used;
-        book.write(today, used, needed - used, bells.candles(today), said, gifts.owedInAll());
+        int candles = bells.candles(today);
+        candlesInAll += candles;
+        figures.put(today, FOOD_USED, used);
+        figures.put(today, FOOD_LACKING, needed - used);
+        figures.put(today, CANDLES, candles);
+        figures.put(today, MASSES_SAID, said);
+        figures.put(today, MASSES_OWED, gifts.owedInAll());
         guestHeads = 0;
         guestRanks = 0;
         today++;
@@ -202,7 +215,7 @@ public final class AbbeyHours {
     }
 
     public int dayOf(int day, int what) {
-        return isGoneBy(day) ? book.figure(day, what) : NONE;
+        return isGoneBy(day) ? figures.at(day, what) : NONE;
     }
 
     public int count(int what) {
@@ -226,7 +239,7 @@ public final class AbbeyHours {
             case 8:
                 return gifts.saidInAll();
             case 9:
-                return book.candlesInAll();
+                return candlesInAll;
             case 10:
                 return tape.length();
             default:
@@ -297,28 +310,27 @@ public final class AbbeyHours {
 
         /** When an office begins if its bell isn't late. */
         static int bell(int dayOfYear, int k) {
+            int light = minutes(dayOfYear);
+            int sunrise = rise(dayOfYear);
+            int sunset = sunrise + light;
             switch (k) {
                 case 0:
-                    return rise(dayOfYear) / 3;
+                    return sunrise / 3;
                 case 1:
-                    return rise(dayOfYear) - 60;
+                    return sunrise - 60;
                 case 2:
-                    return hour(dayOfYear, 0);
+                    return sunrise;
                 case 3:
-                    return hour(dayOfYear, 3);
+                    return sunrise + light * 3 / 12;
                 case 4:
-                    return hour(dayOfYear, 6);
+                    return sunrise + light * 6 / 12;
                 case 5:
-                    return hour(dayOfYear, 9);
+                    return sunrise + light * 9 / 12;
                 case 6:
-                    return hour(dayOfYear, 11);
+                    return sunrise + light * 11 / 12;
                 default:
-                    return setting(dayOfYear) + (MIDNIGHT - setting(dayOfYear)) / 3;
+                    return sunset + (MIDNIGHT - sunset) / 3;
             }
-        }
-
-        private static int hour(int dayOfYear, int twelfths) {
-            return rise(dayOfYear) + minutes(dayOfYear) * twelfths / 12;
         }
     }
 
@@ -359,13 +371,13 @@ public final class AbbeyHours {
         }
 
         int candles(int day) {
-            int rise = Sun.rise(day % YEAR);
-            int setting = Sun.setting(day % YEAR);
+            int sunrise = Sun.rise(day % YEAR);
+            int sunset = Sun.setting(day % YEAR);
             int dark = 0;
             for (int k = 0; k < OFFICES; k++) {
                 int start = startOf(day, k);
-                dark += partOfOffice(rise - start);
-                dark += partOfOffice(start + LASTS - setting);
+                dark += partOfOffice(sunrise - start);
+                dark += partOfOffice(start + LASTS - sunset);
             }
             return dark;
         }
@@ -488,30 +500,13 @@ public final class AbbeyHours {
         }
     }
 
-    /** The bytes that were fed, and the tokens of their beginning, one at a time. */
+    /** The bytes that were fed. */
     private static final class Tape {
         private static final int MOST_BYTES = 600;
         private static final int BYTES_OF_FEED = 20;
-        private static final int MOST_DIGITS = 3;
-
-        private static final int END = 0;
-        private static final int UNKNOWN = 1;
-        private static final int STOP = 2;
-        private static final int NUMBER = 3;
-        private static final int FAST = 4;
-        private static final int WEEKDAY = 5;
-        private static final int FROM = 6;
-        private static final int TO = 7;
-        private static final int FEED = 8;
-        private static final int RANK = 9;
-        private static final int GUEST = 10;
 
         private final byte[] bytes = new byte[MOST_BYTES];
         private int length;
-        private int textLength;
-        private int place;
-        private int end;
-        private int token;
 
         int length() {
             return length;
@@ -534,103 +529,137 @@ public final class AbbeyHours {
             length = 0;
         }
 
-        /** Goes to the first token of the text that the first n bytes are. */
-        void begin(int n) {
-            textLength = Math.min(n, length);
-            end = 0;
-            advance();
+        int byteAt(int i) {
+            return i >= 0 && i < length ? bytes[i] : 0;
+        }
+    }
+
+    /** The tokens of a text on the tape, as many as a rule can need; behind them is the end. */
+    private static final class Tokens {
+        private static final int MOST_DIGITS = 3;
+        // No statement has more than six tokens, and behind the last one a single token is a fault.
+        private static final int MOST = 6 * RuleReader.MOST_STATEMENTS + 1;
+
+        private static final int END = 0;
+        private static final int UNKNOWN = 1;
+        private static final int STOP = 2;
+        private static final int NUMBER = 3;
+        private static final int FAST = 4;
+        private static final int WEEKDAY = 5;
+        private static final int FROM = 6;
+        private static final int TO = 7;
+        private static final int FEED = 8;
+        private static final int RANK = 9;
+        private static final int GUEST = 10;
+
+        private final int[] kinds = new int[MOST];
+        private final int[] places = new int[MOST];
+        private final int[] values = new int[MOST];
+        private int size;
+        private int textLength;
+
+        int kind(int i) {
+            return i >= 0 && i < size ? kinds[i] : END;
         }
 
-        int token() {
-            return token;
+        /** Where a token begins; that of the end is the text's length. */
+        int place(int i) {
+            return i >= 0 && i < size ? places[i] : textLength;
         }
 
-        /** Where the token begins; at the end of the text, the text's length. */
-        int place() {
-            return place;
+        /** The number that a token is, 0 if it is none. */
+        int value(int i) {
+            return i >= 0 && i < size ? values[i] : 0;
         }
 
-        /** The number that the token is, 0 if it is none. */
-        int number() {
-            int value = 0;
-            for (int i = place; token == NUMBER && i < end; i++) {
-                value = value * 10 + byteAt(i) - '0';
+        void scan(Tape tape, int n) {
+            size = 0;
+            textLength = n;
+            for (int i = 0; i < n && size < MOST; i++) {
+                if (!isBlank(tape.byteAt(i))) {
+                    int end = endOfToken(tape, i);
+                    keep(tape, i, end);
+                    i = Math.max(i, end - 1);
+                }
             }
-            return value;
         }
 
-        void advance() {
-            place = end;
-            while (place < textLength && isBlank(byteAt(place))) {
-                place++;
+        private void keep(Tape tape, int from, int end) {
+            if (size >= MOST) {
+                return;
             }
-            if (place >= textLength) {
-                end = textLength;
-                token = END;
-            } else if (isLetter(byteAt(place))) {
-                end = endOfLetters();
-                token = word();
-            } else if (isDigit(byteAt(place))) {
-                end = endOfDigits();
-                token = end - place <= MOST_DIGITS ? NUMBER : UNKNOWN;
-            } else {
-                end = place + 1;
-                token = byteAt(place) == ';' ? STOP : UNKNOWN;
-            }
+            int kind = kindOf(tape, from, end);
+            kinds[size] = kind;
+            places[size] = from;
+            values[size] = kind == NUMBER ? numberOf(tape, from, end) : 0;
+            size++;
         }
 
-        private int word() {
-            if (spells("fast")) {
+        private int endOfToken(Tape tape, int from) {
+            int end = from + 1;
+            if (isLetter(tape.byteAt(from))) {
+                while (end < textLength && isLetter(tape.byteAt(end))) {
+                    end++;
+                }
+            } else if (isDigit(tape.byteAt(from))) {
+                while (end < textLength && isDigit(tape.byteAt(end))) {
+                    end++;
+                }
+            }
+            return end;
+        }
+
+        private static int kindOf(Tape tape, int from, int end) {
+            int first = tape.byteAt(from);
+            if (isLetter(first)) {
+                return wordOf(tape, from, end);
+            }
+            if (isDigit(first)) {
+                return end - from <= MOST_DIGITS ? NUMBER : UNKNOWN;
+            }
+            return first == ';' ? STOP : UNKNOWN;
+        }
+
+        private static int wordOf(Tape tape, int from, int end) {
+            if (spells(tape, from, end, "fast")) {
                 return FAST;
             }
-            if (spells("weekday")) {
+            if (spells(tape, from, end, "weekday")) {
                 return WEEKDAY;
             }
-            if (spells("from")) {
+            if (spells(tape, from, end, "from")) {
                 return FROM;
             }
-            if (spells("to")) {
+            if (spells(tape, from, end, "to")) {
                 return TO;
             }
-            if (spells("feed")) {
+            if (spells(tape, from, end, "feed")) {
                 return FEED;
             }
-            if (spells("rank")) {
+            if (spells(tape, from, end, "rank")) {
                 return RANK;
             }
-            return spells("guest") ? GUEST : UNKNOWN;
+            return spells(tape, from, end, "guest") ? GUEST : UNKNOWN;
         }
 
-        private boolean spells(String word) {
-            if (end - place != word.length()) {
+        private static boolean spells(Tape tape, int from, int end, String word) {
+            if (end - from != word.length()) {
                 return false;
             }
             for (int i = 0; i < word.length(); i++) {
-                if (byteAt(place + i) != word.charAt(i)) {
+                if (tape.byteAt(from + i) != word.charAt(i)) {
                     return false;
                 }
             }
             return true;
         }
 
-        private int endOfLetters() {
-            int i = place;
-            while (i < textLength && isLetter(byteAt(i))) {
-                i++;
+        private static int numberOf(Tape tape, int from, int end) {
+            int value = 0;
+            for (int i = from; i < end; i++) {
+                value = value * 10 + tape.byteAt(i) - '0';
             }
-            return i;
-        }
-
-        private int endOfDigits() {
-            int i = place;
-            while (i < textLength && isDigit(byteAt(i))) {
-                i++;
-            }
-            return i;
-        }
-
-        private int byteAt(int i) {
-            return i >= 0 && i < MOST_BYTES ? bytes[i] : 0;
+            return value;
         }
 
         private static boolean isBlank(int b) {
@@ -657,80 +686,81 @@ public final class AbbeyHours {
         private static final int FEED_GUEST = 5;
         private static final int FEED_HEAD = 6;
 
+        private final Tokens tokens = new Tokens();
         private final int[] kinds = new int[MOST_STATEMENTS];
         private final int[] firsts = new int[MOST_STATEMENTS];
         private final int[] seconds = new int[MOST_STATEMENTS];
         private int size;
+        private int next;
         private int first;
         private int second;
 
         /** The fault's place, NONE if there is none. */
         int read(Tape tape, int n) {
-            size = 0;
-            tape.begin(n);
-            while (size < MOST_STATEMENTS && tape.token() != Tape.END) {
-                int kind = statement(tape);
+            tokens.scan(tape, n);
+            next = 0;
+            for (size = 0; size < MOST_STATEMENTS && tokens.kind(next) != Tokens.END; size++) {
+                int kind = statement();
                 if (kind == NONE) {
-                    return tape.place();
+                    return tokens.place(next);
                 }
                 kinds[size] = kind;
                 firsts[size] = first;
                 seconds[size] = second;
-                size++;
             }
-            return tape.token() == Tape.END ? NONE : tape.place();
+            return tokens.kind(next) == Tokens.END ? NONE : tokens.place(next);
         }
 
-        /** The statement's kind; NONE, with the tape at the faulty token, if it is none. */
-        private int statement(Tape tape) {
+        /** The statement's kind; if it is none, NONE, and the faulty token is the next one. */
+        private int statement() {
             first = 0;
             second = 0;
             int kind = NONE;
-            if (accept(tape, Tape.FAST)) {
-                kind = fastStatement(tape);
-            } else if (accept(tape, Tape.FEED)) {
-                kind = feedStatement(tape);
+            if (accept(Tokens.FAST)) {
+                kind = fastStatement();
+            } else if (accept(Tokens.FEED)) {
+                kind = feedStatement();
             }
-            return kind != NONE && accept(tape, Tape.STOP) ? kind : NONE;
+            return kind != NONE && accept(Tokens.STOP) ? kind : NONE;
         }
 
-        private int fastStatement(Tape tape) {
-            if (accept(tape, Tape.WEEKDAY)) {
-                return acceptFirst(tape) ? FAST_WEEKDAY : NONE;
+        private int fastStatement() {
+            if (accept(Tokens.WEEKDAY)) {
+                return acceptFirst() ? FAST_WEEKDAY : NONE;
             }
-            boolean span = accept(tape, Tape.FROM) && acceptFirst(tape)
-                    && accept(tape, Tape.TO) && acceptSecond(tape);
+            boolean span = accept(Tokens.FROM) && acceptFirst()
+                    && accept(Tokens.TO) && acceptSecond();
             return span ? FAST_SPAN : NONE;
         }
 
-        private int feedStatement(Tape tape) {
-            if (accept(tape, Tape.FAST)) {
-                return acceptSecond(tape) ? FEED_FAST : NONE;
+        private int feedStatement() {
+            if (accept(Tokens.FAST)) {
+                return acceptSecond() ? FEED_FAST : NONE;
             }
-            if (accept(tape, Tape.RANK)) {
-                return acceptFirst(tape) && acceptSecond(tape) ? FEED_RANK : NONE;
+            if (accept(Tokens.RANK)) {
+                return acceptFirst() && acceptSecond() ? FEED_RANK : NONE;
             }
-            if (accept(tape, Tape.GUEST)) {
-                return acceptSecond(tape) ? FEED_GUEST : NONE;
+            if (accept(Tokens.GUEST)) {
+                return acceptSecond() ? FEED_GUEST : NONE;
             }
-            return acceptSecond(tape) ? FEED_HEAD : NONE;
+            return acceptSecond() ? FEED_HEAD : NONE;
         }
 
-        private boolean acceptFirst(Tape tape) {
-            first = tape.number();
-            return accept(tape, Tape.NUMBER);
+        private boolean acceptFirst() {
+            first = tokens.value(next);
+            return accept(Tokens.NUMBER);
         }
 
-        private boolean acceptSecond(Tape tape) {
-            second = tape.number();
-            return accept(tape, Tape.NUMBER);
+        private boolean acceptSecond() {
+            second = tokens.value(next);
+            return accept(Tokens.NUMBER);
         }
 
-        private static boolean accept(Tape tape, int token) {
-            if (tape.token() != token) {
+        private boolean accept(int kind) {
+            if (tokens.kind(next) != kind) {
                 return false;
             }
-            tape.advance();
+            next++;
             return true;
         }
     }
@@ -910,11 +940,11 @@ public final class AbbeyHours {
 
     /** Who had which duty on the days gone by, and how many turns that makes. */
     private static final class Duties {
-        private final int[] holders = new int[DAYS * DUTIES];
+        private final DayTable holders = new DayTable(DUTIES);
         private final int[] taken = new int[Monks.MOST * DUTIES];
 
         int holder(int day, int duty) {
-            return holders[day * DUTIES + duty];
+            return holders.at(day, duty);
         }
 
         int turnsTaken(int monk, int duty) {
@@ -931,7 +961,7 @@ public final class AbbeyHours {
 
         void share(Monks monks, int day) {
             for (int duty = 0; duty < DUTIES; duty++) {
-                holders[day * DUTIES + duty] = NONE;
+                holders.put(day, duty, NONE);
             }
             for (int duty = 0; duty < DUTIES; duty++) {
                 give(day, duty, choose(monks, day, duty));
@@ -951,7 +981,7 @@ public final class AbbeyHours {
         }
 
         private void give(int day, int duty, int monk) {
-            holders[day * DUTIES + duty] = monk;
+            holders.put(day, duty, monk);
             if (monk != NONE) {
                 taken[monk * DUTIES + duty]++;
             }
@@ -1111,29 +1141,42 @@ public final class AbbeyHours {
         }
     }
 
-    /** The figures of the days gone by. */
-    private static final class DayBook {
-        private static final int FIGURES = 5;
+    /** A row of numbers for each day. It grows with the days, as few objects see many of them. */
+    private static final class DayTable {
+        private static final int DAYS_AT_FIRST = 32;
 
-        private final int[] rows = new int[DAYS * FIGURES];
-        private int allCandles;
+        private final int width;
+        private int[] cells;
 
-        void write(int day, int used, int lacking, int candles, int said, int owed) {
-            int row = day * FIGURES;
-            rows[row] = used;
-            rows[row + 1] = lacking;
-            rows[row + 2] = candles;
-            rows[row + 3] = said;
-            rows[row + 4] = owed;
-            allCandles += candles;
+        DayTable(int columns) {
+            width = Math.max(1, columns);
+            cells = new int[width * DAYS_AT_FIRST];
         }
 
-        int figure(int day, int what) {
-            return within(what, 0, FIGURES - 1) ? rows[day * FIGURES + what] : NONE;
+        int at(int day, int column) {
+            return isCell(day, column) && day * width + column < cells.length
+                    ? cells[day * width + column]
+                    : NONE;
         }
 
-        int candlesInAll() {
-            return allCandles;
+        void put(int day, int column, int value) {
+            if (!isCell(day, column)) {
+                return;
+            }
+            if ((day + 1) * width > cells.length) {
+                grow((day + 1) * width);
+            }
+            cells[day * width + column] = value;
+        }
+
+        private boolean isCell(int day, int column) {
+            return day >= 0 && day < DAYS && column >= 0 && column < width;
+        }
+
+        private void grow(int needed) {
+            int[] more = new int[Math.max(needed, 2 * cells.length)];
+            System.arraycopy(cells, 0, more, 0, cells.length);
+            cells = more;
         }
     }
 }

@@ -55,16 +55,26 @@ public final class DaysTest {
 
     private static void days() {
         AbbeyHours x = new AbbeyHours();
-        for (int day = 1; day <= 510; day++) {
+        x.monk(false, 0);
+        x.monk(false, 0);
+        for (int day = 1; day <= 450; day++) {
             DUE.is("19: day()", x.day(), day);
         }
+        for (int day : new int[] {0, 31, 32, 63, 64, 127, 128, 255, 256, 449}) {
+            DUE.is("23: dayOf(" + day + ", 1)", x.dayOf(day, 1), 4);
+            DUE.is("23: dayOf(" + day + ", 2)", x.dayOf(day, 2), 90);
+            DUE.is("20: turn(" + day + ", 0)", x.turn(day, 0), day % 2);
+            DUE.is("20: turn(" + day + ", 1)", x.turn(day, 1), 1 - day % 2);
+            DUE.is("20: turn(" + day + ", 3)", x.turn(day, 3), -1);
+        }
         AbbeyHours y = new AbbeyHours();
-        Due.goBy(y, 1094);
-        // More than 512 calls: the document leaves the answers free, but nothing may be thrown.
-        y.day();
-        y.day();
-        y.dayOf(1093, 2);
-        y.fail(0);
+        // The last day lies behind the 512 calls of an object; this class answers there as before.
+        Due.goBy(y, 1093);
+        DUE.is("19: day() to the last day", y.day(), 1094);
+        DUE.is("19: day() on the last day", y.day(), -1);
+        DUE.is("19: count(0)", y.count(0), 1094);
+        DUE.is("23: dayOf(1093, 2)", y.dayOf(1093, 2), 90);
+        DUE.is("23: dayOf(1094, 2)", y.dayOf(1094, 2), -1);
     }
 
     private static void row(String of, AbbeyHours x, int day, int... due) {

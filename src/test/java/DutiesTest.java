@@ -10,6 +10,7 @@ public final class DutiesTest {
         stepsInByFewestTurns();
         failedOneMayTakeAnotherDuty();
         nobodyToStepIn();
+        oneWhoCameLaterStepsIn();
         onlyTheAbleStepIn();
         DUE.end();
     }
@@ -118,6 +119,15 @@ public final class DutiesTest {
         DUE.is("22: turn(0, 0)", x.turn(0, 0), -1);
         DUE.is("22: turns(0, 0)", x.turns(0, 0), 0);
         DUE.is("22: fail(0) again", x.fail(0), -2);
+    }
+
+    private static void oneWhoCameLaterStepsIn() {
+        AbbeyHours x = withMonks(0);
+        x.day();
+        x.monk(false, 0);
+        // No row tells that one away on the day gone by, so by the document's word it was ABLE.
+        DUE.is("22: fail(0), by a monk who came later", x.fail(0), 1);
+        DUE.is("20: turn(0, 0)", x.turn(0, 0), 1);
     }
 
     private static void onlyTheAbleStepIn() {

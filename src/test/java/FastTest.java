@@ -10,6 +10,7 @@ public final class FastTest {
         firstThatIsTold();
         lastOfEachKind();
         inForce();
+        rulesOfSixteenStatements();
         DUE.end();
     }
 
@@ -90,6 +91,12 @@ public final class FastTest {
         row("no feed", x, 0, 1, 9, 0, 2);
         row("no feed", x, 2, 0, 2, 0, 2);
         row("rank 0 is none", x, 3, 0, 2, 0, 2);
+        Due.takeRule(x, "feed rank 0 8; feed fast 9;");
+        row("neither head nor guest", x, 3, 0, 2, 3, 3);
+        Due.takeRule(x, "feed 8;");
+        row("a head is no guest", x, 3, 0, 8, 3, 4);
+        Due.takeRule(x, "feed guest 8;");
+        row("a guest is no head", x, 3, 0, 2, 8, 5);
     }
 
     private static void lastOfEachKind() {
@@ -100,6 +107,29 @@ public final class FastTest {
         row("last", x, 0, 1, 6, 12, 0);
         row("last", x, 1, 0, 9, 12, 0);
         row("last", x, 2, 0, 4, 12, 0);
+    }
+
+    private static void rulesOfSixteenStatements() {
+        AbbeyHours x = new AbbeyHours();
+        for (int i = 0; i < 10; i++) {
+            StringBuilder text = new StringBuilder("fast from ").append(i).append(" to ").append(i).append(";");
+            for (int k = 0; k < 14; k++) {
+                text.append("feed guest ").append(k).append(";");
+            }
+            text.append("feed ").append(100 + i).append(";");
+            DUE.is("11: rule " + i, Due.takeRule(x, text.toString()), i);
+            x.day();
+        }
+        for (int i = 0; i < 10; i++) {
+            row("each by its own statements", x, i, 1, 100 + i, 13, i);
+        }
+        row("each by its own statements", x, 10, 0, 109, 13, 9);
+        AbbeyHours y = new AbbeyHours();
+        Due.takeRule(y, "feed 1;feed 1;feed 1;feed 1;feed 1;feed 1;feed 1;feed 1;"
+                + "feed 1;feed 1;feed 1;feed 1;feed 1;feed 1;feed 1;feed 1;");
+        y.day();
+        Due.takeRule(y, "fast weekday 0;feed guest 9;");
+        row("not by the next one's", y, 0, 0, 1, 3, 0);
     }
 
     private static void inForce() {

@@ -9,6 +9,7 @@ public final class GiftsTest {
         fromTodayOn();
         leave();
         leaveRows();
+        oneLeave();
         whichIsSaid();
         priestsWhoSay();
         DUE.end();
@@ -114,6 +115,16 @@ public final class GiftsTest {
         DUE.is("15: row 41", x.leave(0, 0, 0), -1);
         x.day();
         row("no leave by it", x, 0, 1, 0, 0);
+    }
+
+    private static void oneLeave() {
+        AbbeyHours x = new AbbeyHours();
+        x.gift(false, 0, false);
+        x.gift(false, 0, false);
+        DUE.is("15: leave(1, 0, 0)", x.leave(1, 0, 0), 1);
+        x.day();
+        row("no leave of it", x, 0, 1, 0, 0);
+        row("leave on its day", x, 1, 0, 0, 1);
     }
 
     private static void whichIsSaid() {

@@ -39,6 +39,7 @@ public final class OfficesTest {
 
     private static void offices() {
         AbbeyHours x = new AbbeyHours();
+        row(x, 0, 155, 407, 467, 593, 720, 846, 930, 1128);
         row(x, 172, 80, 180, 240, 480, 720, 960, 1120, 1280);
         row(x, 355, 160, 420, 480, 600, 720, 840, 920, 1120);
         // Light 509 from 466 to 975: 127 by 3, 254 by 6, 381 by 9, 466 by 11 twelfths.

@@ -8,6 +8,7 @@ public final class RuleTest {
         taken();
         faults();
         statements();
+        textEndsInsideAToken();
         refused();
         tenRules();
         DUE.end();
@@ -66,6 +67,14 @@ public final class RuleTest {
         fault("f", 0);
         fault(" Fast weekday 1;", 1);
         fault("fasts weekday 1;", 0);
+        fault("xast weekday 1;", 0);
+        fault("fest weekday 1;", 0);
+        fault("feedz 1;", 0);
+        fault("feeda 1;", 0);
+        fault("feed`1;", 4);
+        fault("feed{1;", 4);
+        fault("feed /1;", 5);
+        fault("feed :1;", 5);
         fault("fastweekday 1;", 0);
         fault("fast", 4);
         fault("fast  ", 6);
@@ -78,6 +87,11 @@ public final class RuleTest {
         fault("fast weekday 0001;", 13);
         fault("fast from to 3;", 10);
         fault("fast from 1 ;", 12);
+        fault("fast from 1 feed 3;", 12);
+        fault("feed from 1 to 3;", 5);
+        fault("feed to 3;", 5);
+        fault("fast guest 3;", 5);
+        fault("fast rank 1 3;", 5);
         fault("fast from 1 3;", 12);
         fault("fast from 1 to ;", 15);
         fault("fast from 1 to 2 fast", 17);
@@ -115,11 +129,34 @@ public final class RuleTest {
     private static void statements() {
         AbbeyHours x = new AbbeyHours();
         DUE.is("11: 16 statements", Due.takeRule(x, times(16, "feed 1;") + "  "), 0);
+        AbbeyHours y = new AbbeyHours();
+        DUE.is("11: 16 long statements", Due.takeRule(y, times(16, "fast from 1 to 2;")), 0);
+        fault(times(16, "fast from 1 to 2;") + "fast from 1 to 2;", 272);
+        fault(times(16, "fast from 1 to 2;") + "\n;;;;", 273);
+        fault(times(15, "fast from 1 to 2;") + "fast from 1 to 2", 271);
+        fault(times(600, ";"), 0);
+        fault("feed" + times(298, " 7"), 7);
         fault(times(17, "feed 1;"), 112);
         fault(times(16, "feed 1;") + "  feed 1;", 114);
         fault(times(16, "feed 1;") + " fast", 113);
         fault(times(16, "feed 1;") + " %", 113);
         fault(times(15, "feed 1;") + "feed 1", 111);
+    }
+
+    private static void textEndsInsideAToken() {
+        AbbeyHours x = new AbbeyHours();
+        Due.feedText(x, "feed 12;");
+        DUE.is("11: rule(6) of 'feed 12;'", x.rule(6), -1);
+        DUE.is("12: its fault", x.fault(), 6);
+        Due.feedText(x, "feed 1234;");
+        DUE.is("11: rule(8) of 'feed 1234;'", x.rule(8), -1);
+        DUE.is("12: its fault", x.fault(), 8);
+        Due.feedText(x, "feeds");
+        DUE.is("11: rule(4) of 'feeds'", x.rule(4), -1);
+        DUE.is("12: its fault", x.fault(), 4);
+        Due.feedText(x, "feed 7; fast");
+        DUE.is("11: rule(10) of 'feed 7; fast'", x.rule(10), -1);
+        DUE.is("12: its fault", x.fault(), 8);
     }
 
     private static void refused() {
