@@ -352,15 +352,12 @@ public final class AbbeyHours {
 
         int delay(int day, int k, int m) {
             int minute = Sun.bell(day % YEAR, k) + m;
-            if (!keepsOrder(day, k, minute)) {
+            // The document refuses once 100 are told, be it a new bell or one told anew.
+            if (size >= MOST_ROWS || !keepsOrder(day, k, minute)) {
                 return NONE;
             }
             int row = rowOf(day, k);
             if (row == NONE) {
-                // A bell told anew takes its old row, so only a new one needs room.
-                if (size >= MOST_ROWS) {
-                    return NONE;
-                }
                 row = size;
                 size++;
             }

@@ -101,10 +101,12 @@ public final class OfficesTest {
             int day = 10 + i / 8;
             int k = i % 8;
             DUE.is("9: row " + i, x.late(day, k, 2), x.office(day + 365, k) + 2);
+            DUE.is("9: anew, which is no row more", x.late(10, 0, 1 + i % 9), 
+                    i == 99 ? -1 : x.office(375, 0) + 1 + i % 9);
         }
         DUE.is("9: the 101st", x.late(200, 4, 2), -1);
         DUE.is("9: office(200, 4)", x.office(200, 4), 720);
-        DUE.is("9: one in place of another", x.late(10, 4, 3), 723);
-        DUE.is("9: the 101st later", x.late(200, 4, 2), -1);
+        DUE.is("9: one in place of another", x.late(10, 4, 3), -1);
+        DUE.is("9: office(10, 4)", x.office(10, 4), 722);
     }
 }
