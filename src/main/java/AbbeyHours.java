@@ -48,7 +48,7 @@ public final class AbbeyHours {
     }
 
     public int monk(boolean priest, int bars) {
-        return within(bars, 0, 15) ? monks.enter(priest, bars) : NONE;
+        return within(bars, 0, 15) ? monks.enter(priest, bars, today) : NONE;
     }
 
     public int away(int monk, int from, int to) {
@@ -876,6 +876,7 @@ public final class AbbeyHours {
 
         private final boolean[] priests = new boolean[MOST];
         private final int[] barred = new int[MOST];
+        private final int[] cameOn = new int[MOST];
         private final int[] absent = new int[MOST_ROWS];
         private final int[] absentFrom = new int[MOST_ROWS];
         private final int[] absentTo = new int[MOST_ROWS];
@@ -890,12 +891,13 @@ public final class AbbeyHours {
             return monk >= 0 && monk < size;
         }
 
-        int enter(boolean priest, int bars) {
+        int enter(boolean priest, int bars, int today) {
             if (size >= MOST) {
                 return NONE;
             }
             priests[size] = priest;
             barred[size] = bars;
+            cameOn[size] = today;
             size++;
             return size - 1;
         }
@@ -912,6 +914,10 @@ public final class AbbeyHours {
         }
 
         boolean isAble(int monk, int day) {
+            // Who came in behind a day wasn't there to be able on it.
+            if (!has(monk) || day < cameOn[monk]) {
+                return false;
+            }
             for (int row = 0; row < rows; row++) {
                 if (absent[row] == monk && within(day, absentFrom[row], absentTo[row])) {
                     return false;

@@ -10,7 +10,8 @@ public final class DutiesTest {
         stepsInByFewestTurns();
         failedOneMayTakeAnotherDuty();
         nobodyToStepIn();
-        oneWhoCameLaterStepsIn();
+        oneWhoCameLaterWasNotAble();
+        oneWhoCameOnTheDayWasAble();
         onlyTheAbleStepIn();
         DUE.end();
     }
@@ -121,13 +122,38 @@ public final class DutiesTest {
         DUE.is("22: fail(0) again", x.fail(0), -2);
     }
 
-    private static void oneWhoCameLaterStepsIn() {
+    private static void oneWhoCameLaterWasNotAble() {
         AbbeyHours x = withMonks(0);
         x.day();
         x.monk(false, 0);
-        // No row tells that one away on the day gone by, so by the document's word it was ABLE.
-        DUE.is("22: fail(0), by a monk who came later", x.fail(0), 1);
-        DUE.is("20: turn(0, 0)", x.turn(0, 0), 1);
+        DUE.is("22: fail(0), the other came later", x.fail(0), -1);
+        DUE.is("20: turn(0, 0)", x.turn(0, 0), -1);
+        DUE.is("21: turns(0, 0)", x.turns(0, 0), 0);
+        DUE.is("21: turns(1, 0)", x.turns(1, 0), 0);
+        DUE.is("22: fail(0) again", x.fail(0), -2);
+        x.day();
+        row("the day on which the other is there", x, 1, 0, 1, -1, -1);
+
+        // Monk 3 has the fewest turns of all, but came in behind the day.
+        AbbeyHours y = withMonks(14, 14, 14);
+        Due.goBy(y, 3);
+        y.monk(false, 14);
+        DUE.is("22: fail(0), by one with more turns", y.fail(0), 0);
+        DUE.is("21: turns(0, 0) then", y.turns(0, 0), 2);
+        DUE.is("21: turns(3, 0) then", y.turns(3, 0), 0);
+        y.day();
+        DUE.is("20: turn(3, 0), by the fewest turns", y.turn(3, 0), 2);
+        DUE.is("22: fail(0), the new one was there", y.fail(0), 3);
+    }
+
+    private static void oneWhoCameOnTheDayWasAble() {
+        AbbeyHours x = withMonks(14);
+        x.day();
+        x.monk(false, 14);
+        x.day();
+        DUE.is("20: turn(1, 0)", x.turn(1, 0), 1);
+        DUE.is("22: fail(0), back to the first", x.fail(0), 0);
+        DUE.is("22: fail(0), by who came on that day", x.fail(0), 1);
     }
 
     private static void onlyTheAbleStepIn() {
