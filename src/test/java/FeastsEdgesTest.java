@@ -59,10 +59,12 @@ public final class FeastsEdgesTest {
         REFUSED.outside("4: a feast of rank", 1, 4, (x, rank) -> x.feast(5, rank), NONE);
     }
 
+    /** Forty that give way to one another under a rule by ranks: a change of any one would show. */
     private static void fullOfFeasts(AbbeyHours x) {
         for (int i = 0; i < 40; i++) {
-            x.feast(9 * i, 1 + i % 4);
+            x.feast(2, 2);
         }
+        Due.takeRule(x, "feed rank 2 20; feed rank 4 40;");
     }
 
     private static void feastsAre40AtMost() {
@@ -74,7 +76,8 @@ public final class FeastsEdgesTest {
         DUE.is("6: when(39)", x.when(39), 351);
         REFUSED.is("4: the 41st, on a day of its own", FeastsEdgesTest::fullOfFeasts, y -> y.feast(1, 4), NONE);
         REFUSED.is("4: the 41st, the greatest of its day", FeastsEdgesTest::fullOfFeasts,
-                y -> y.feast(0, 4), NONE);
+                y -> y.feast(2, 4), NONE);
+        REFUSED.is("4: the 41st, as one that is there", FeastsEdgesTest::fullOfFeasts, y -> y.feast(2, 2), NONE);
     }
 
     private static void heldOfDays0To364() {

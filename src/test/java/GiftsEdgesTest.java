@@ -49,10 +49,10 @@ public final class GiftsEdgesTest {
         REFUSED.outside("14: a gift on day", 0, 364, (x, n) -> x.gift(false, n, true), NONE);
     }
 
+    /** Forty that are alike: a change of any one would show. */
     private static void fullOfGifts(AbbeyHours x) {
-        x.monk(true, 0);
         for (int i = 0; i < 40; i++) {
-            x.gift(i % 2 == 0, i % 7, i % 3 == 0);
+            x.gift(true, 0, false);
         }
     }
 
@@ -63,7 +63,7 @@ public final class GiftsEdgesTest {
         }
         DUE.is("24: count(3) of 40", x.count(3), 40);
         REFUSED.is("14: the 41st, weekly", GiftsEdgesTest::fullOfGifts, y -> y.gift(true, 0, true), NONE);
-        REFUSED.is("14: the 41st, yearly", GiftsEdgesTest::fullOfGifts, y -> y.gift(false, 0, false), NONE);
+        REFUSED.is("14: the 41st, yearly", GiftsEdgesTest::fullOfGifts, y -> y.gift(false, 1, false), NONE);
         AbbeyHours z = new AbbeyHours();
         for (int i = 0; i < 39; i++) {
             z.gift(false, 100, false);
@@ -225,11 +225,14 @@ public final class GiftsEdgesTest {
         masses("two rows", x, 0, 0, 0, 2);
     }
 
-    private static void fullOfLeave(AbbeyHours x) {
-        Refusals.busy(x);
-        for (int row = 2; row <= 40; row++) {
-            x.leave(row % 2, 100 + row, 101 + row);
-        }
+    /** A busy object whose other 39 rows are all alike, so that a change of any one would show. */
+    private static Refusals.State fullOfLeave(int gift, int from, int to) {
+        return x -> {
+            Refusals.busy(x);
+            for (int row = 2; row <= 40; row++) {
+                x.leave(gift, from, to);
+            }
+        };
     }
 
     private static void leaveRowsAre40AtMost() {
@@ -237,8 +240,10 @@ public final class GiftsEdgesTest {
         for (int row = 2; row <= 40; row++) {
             DUE.is("15: row " + row, x.leave(row % 2, 100 + row, 101 + row), row);
         }
-        REFUSED.is("15: row 41", GiftsEdgesTest::fullOfLeave, y -> y.leave(1, 0, 1094), NONE);
-        REFUSED.is("15: row 41, as one that is there", GiftsEdgesTest::fullOfLeave, y -> y.leave(0, 7, 7), NONE);
+        REFUSED.is("15: row 41, of another gift", fullOfLeave(2, 3, 1094), y -> y.leave(1, 3, 1094), NONE);
+        REFUSED.is("15: row 41, from another day", fullOfLeave(2, 1094, 1094), y -> y.leave(2, 3, 1094), NONE);
+        REFUSED.is("15: row 41, to another day", fullOfLeave(2, 3, 3), y -> y.leave(2, 4, 1094), NONE);
+        REFUSED.is("15: row 41, as one that is there", fullOfLeave(0, 7, 7), y -> y.leave(0, 7, 7), NONE);
         AbbeyHours z = new AbbeyHours();
         z.gift(true, 0, false);
         for (int row = 1; row < 40; row++) {

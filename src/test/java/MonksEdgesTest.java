@@ -40,9 +40,25 @@ public final class MonksEdgesTest {
         }
     }
 
-    private static void fullOfMonks(AbbeyHours x) {
+    /** Six monks for each duty, and more masses than all of them say in a day: a change of any one would show. */
+    private static void fullOfPriests(AbbeyHours x) {
         for (int i = 0; i < 24; i++) {
-            x.monk(i % 3 == 0, i % 16);
+            x.monk(true, 15 - (1 << i % 4));
+        }
+        manyGifts(x);
+    }
+
+    /** Nobody who may do anything: a change of any one would show. */
+    private static void fullOfBarred(AbbeyHours x) {
+        for (int i = 0; i < 24; i++) {
+            x.monk(false, 15);
+        }
+        manyGifts(x);
+    }
+
+    private static void manyGifts(AbbeyHours x) {
+        for (int i = 0; i < 40; i++) {
+            x.gift(true, 0, true);
         }
     }
 
@@ -52,18 +68,18 @@ public final class MonksEdgesTest {
             DUE.is("2: monk " + i, x.monk(i % 3 == 0, i % 16), i);
         }
         DUE.is("2: count(1) of 24", x.count(1), 24);
-        REFUSED.is("2: a priest as the 25th", MonksEdgesTest::fullOfMonks, y -> y.monk(true, 0), NONE);
-        REFUSED.is("2: another one as the 25th", MonksEdgesTest::fullOfMonks, y -> y.monk(false, 15), NONE);
-        REFUSED.is("2: the 25th with wrong bars", MonksEdgesTest::fullOfMonks, y -> y.monk(true, 16), NONE);
+        REFUSED.is("2: a priest as the 25th", MonksEdgesTest::fullOfBarred, y -> y.monk(true, 0), NONE);
+        REFUSED.is("2: another one as the 25th", MonksEdgesTest::fullOfPriests, y -> y.monk(false, 15), NONE);
+        REFUSED.is("2: the 25th with wrong bars", MonksEdgesTest::fullOfPriests, y -> y.monk(true, 16), NONE);
     }
 
     private static void awayOfAMonkWhoIsThere() {
         AbbeyHours x = new AbbeyHours();
-        fullOfMonks(x);
+        fullOfPriests(x);
         DUE.is("3: away of the first", x.away(0, 0, 0), 1);
         DUE.is("3: away of the last", x.away(23, 0, 0), 2);
         REFUSED.outside("3: away of monk", 0, 4, (y, monk) -> y.away(monk, 3, 4), NONE);
-        REFUSED.is("3: away of the 25th", MonksEdgesTest::fullOfMonks, y -> y.away(24, 0, 1), NONE);
+        REFUSED.is("3: away of the 25th", MonksEdgesTest::fullOfPriests, y -> y.away(24, 0, 1), NONE);
         REFUSED.is("3: away of nobody", Refusals::fresh, y -> y.away(0, 0, 0), NONE);
     }
 
@@ -120,11 +136,14 @@ public final class MonksEdgesTest {
         }
     }
 
-    private static void fullOfAbsences(AbbeyHours x) {
-        Refusals.busy(x);
-        for (int i = 2; i <= 60; i++) {
-            x.away(i % 5, 3 + i, 4 + i);
-        }
+    /** A busy object whose other 59 rows are all alike, so that a change of any one would show. */
+    private static Refusals.State fullOfAbsences(int monk, int from, int to) {
+        return x -> {
+            Refusals.busy(x);
+            for (int i = 2; i <= 60; i++) {
+                x.away(monk, from, to);
+            }
+        };
     }
 
     private static void awayRowsAre60AtMost() {
@@ -133,9 +152,10 @@ public final class MonksEdgesTest {
         for (int i = 2; i <= 60; i++) {
             DUE.is("3: row " + i, x.away(i % 5, 3 + i, 4 + i), i);
         }
-        REFUSED.is("3: row 61", MonksEdgesTest::fullOfAbsences, y -> y.away(0, 3, 1094), NONE);
-        REFUSED.is("3: row 61, as one that is there", MonksEdgesTest::fullOfAbsences,
-                y -> y.away(1, 4, 4), NONE);
+        REFUSED.is("3: row 61, of another monk", fullOfAbsences(0, 3, 1094), y -> y.away(2, 3, 1094), NONE);
+        REFUSED.is("3: row 61, from another day", fullOfAbsences(0, 1094, 1094), y -> y.away(0, 3, 1094), NONE);
+        REFUSED.is("3: row 61, to another day", fullOfAbsences(0, 3, 3), y -> y.away(0, 4, 1094), NONE);
+        REFUSED.is("3: row 61, as one that is there", fullOfAbsences(0, 5, 6), y -> y.away(0, 5, 6), NONE);
     }
 
     private static void rowsAreCountedOverAllMonks() {

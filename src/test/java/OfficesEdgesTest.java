@@ -23,6 +23,7 @@ public final class OfficesEdgesTest {
         lateOfTheLastOffice();
         lateIsBehindTheOneAhead();
         lateInPlaceOfWhatWasTold();
+        lateInItsPlaceIsNoBellMore();
         lateOnThatDayAlone();
         hundredLatesAtMost();
         DUE.end();
@@ -224,6 +225,17 @@ public final class OfficesEdgesTest {
         DUE.is("8: the last one holds still", x.office(9, 4), 770);
     }
 
+    private static void lateInItsPlaceIsNoBellMore() {
+        AbbeyHours x = new AbbeyHours();
+        for (int m = 1; m <= 120; m++) {
+            x.late(20, 4, m);
+        }
+        hundredLates(x);
+        DUE.is("8: the 99th behind it is taken", x.office(17, 2), x.office(382, 2) + 2);
+        DUE.is("8: the 100th behind it is not", x.office(17, 3), x.office(382, 3));
+        DUE.is("8: it holds", x.office(20, 4), 840);
+    }
+
     private static void lateOnThatDayAlone() {
         AbbeyHours x = new AbbeyHours();
         x.late(365, 4, 7);
@@ -248,9 +260,9 @@ public final class OfficesEdgesTest {
             DUE.is("9: bell " + i, x.late(5 + i / 8, i % 8, 2), x.office(370 + i / 8, i % 8) + 2);
         }
         DUE.is("8: the 100th", x.office(17, 3), x.office(382, 3) + 2);
-        REFUSED.is("9: the 101st", OfficesEdgesTest::hundredLates, y -> y.late(172, 4, 2), NONE);
+        REFUSED.is("9: the 101st", OfficesEdgesTest::hundredLates, y -> y.late(172, 4, 9), NONE);
         REFUSED.is("9: the 101st, on a day with others", OfficesEdgesTest::hundredLates,
-                y -> y.late(17, 4, 2), NONE);
+                y -> y.late(17, 4, 9), NONE);
         // The document refuses whenever 100 are told, so in their place, too.
         REFUSED.is("9: one of the hundred anew", OfficesEdgesTest::hundredLates, y -> y.late(5, 4, 3), NONE);
     }
